@@ -10,6 +10,7 @@ public final class ArrayRecords {
     private static final int FED = 8;
     private static final int TOKENS = 150;
     private static final int LETTERS = 8;
+    private static final int HIGHEST = 2147483647;
     private static final int DEPTH = 10;
     private static final int FUEL = 20000;
     private static final int KEPT = 64;
@@ -283,11 +284,11 @@ public final class ArrayRecords {
             int to = from;
             while (to < length && isDigit(tape[to])) {
                 // Held just above the highest int, so that no row of digits wraps around.
-                number = Math.min(number * 10 + tape[to] - '0', Integer.MAX_VALUE + 1L);
+                number = Math.min(number * 10 + tape[to] - '0', HIGHEST + 1L);
                 to++;
             }
             values[count] = number;
-            sorts[count] = number > Integer.MAX_VALUE ? WRONG : NUMBER;
+            sorts[count] = number > HIGHEST ? WRONG : NUMBER;
             return to;
         }
 
