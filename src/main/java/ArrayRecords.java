@@ -624,7 +624,7 @@ public final class ArrayRecords {
         private final int[] waiting = new int[TOKENS + 1];
         private int top;
         private int brackets;
-        // The kind whose fields stand for those of its records; 0 outside of where and set, where aggregates may stand.
+        // The kind of the record whose fields names are within where and set; elsewhere 0, and aggregates may stand.
         private int record;
         private int latestAggregate;
 
@@ -644,7 +644,7 @@ public final class ArrayRecords {
             boolean wanted = true;
             for (int turn = 0; turn <= TOKENS && (wanted || goesOn()); turn++) {
                 if (!wanted) {
-                    wanted = join();
+                    wanted = tokens.sort() == CLOSE ? close() : join();
                     continue;
                 }
                 switch (tokens.sort()) {
@@ -683,13 +683,9 @@ public final class ArrayRecords {
             return sort == CLOSE ? brackets > 0 : sort != NOT && rank(sort) >= LOOSEST;
         }
 
-        /** Whether an operand is wanted behind the current token, which stands behind an operand. */
+        /** Whether an operand is wanted behind it: always. */
         private boolean join() {
             int sort = tokens.sort();
-            if (sort == CLOSE) {
-                close();
-                return false;
-            }
             int rank = rank(sort);
             release(rank == COMPARING ? rank + 1 : rank);
             if (rank == COMPARING && top > 0 && rank(waiting[top - 1]) == COMPARING) {
@@ -700,7 +696,8 @@ public final class ArrayRecords {
             return true;
         }
 
-        private void close() {
+        /** Whether an operand is wanted behind it: never. */
+        private boolean close() {
             release(LOOSEST);
             top--;
             brackets--;
@@ -710,6 +707,7 @@ public final class ArrayRecords {
                 record = 0;
             }
             scope.leave(CLOSE);
+            return false;
         }
 
         private void prefix() {
@@ -867,7 +865,7 @@ public final class ArrayRecords {
                             change();
                     }
                 }
-                end();
+                noBlockIsOpen();
             } catch (IllegalArgumentException wrong) {
                 return false;
             }
@@ -1026,11 +1024,10 @@ public final class ArrayRecords {
             tokens.take(SEMICOLON);
         }
 
-        private void end() {
+        private void noBlockIsOpen() {
             if (scope.blocks > 0) {
                 throw new IllegalArgumentException();
             }
-            program.addStep(END);
         }
     }
 
@@ -1112,12 +1109,9 @@ public final class ArrayRecords {
             tank = fuel;
             spent = 0;
             int at = 0;
-            for (int turn = 0; turn < TURNS; turn++) {
+            for (int turn = 0; turn < TURNS && at < program.stepCount; turn++) {
                 Step step = program.steps[at];
                 at++;
-                if (step.act == END) {
-                    return THROUGH;
-                }
                 if (step.act != JUMP && step.act != NEXT && !spend()) {
                     return SPENT;
                 }
@@ -1145,7 +1139,7 @@ public final class ArrayRecords {
                         act(step);
                 }
             }
-            return SPENT;
+            return THROUGH;
         }
 
         private boolean spend() {
@@ -1176,7 +1170,7 @@ public final class ArrayRecords {
                     cursors.begin(step.cursor, found(step.kind, step.where), step.field);
                     break;
                 case CHANGE:
-                    change(step);
+                    change(step, value(step.value));
                     break;
                 case REMOVE:
                     remove(step);
@@ -1219,8 +1213,7 @@ public final class ArrayRecords {
             }
         }
 
-        private void change(Step step) {
-            int value = value(step.value);
+        private void change(Step step, int value) {
             int w = cursors.at(step.cursor);
             if (w != NONE) {
                 words.values[w][step.field] = value & names.masks[step.kind][step.field];
