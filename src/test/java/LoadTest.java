@@ -10,6 +10,8 @@ public final class LoadTest {
         takenBack(checks);
         stays(checks);
         limits(checks);
+        behindWrongOnes(checks);
+        often(checks);
         checks.end();
     }
 
@@ -120,6 +122,41 @@ public final class LoadTest {
         Checks.feed(array, "kind w f:1;");
         checks.fails("the variable was read", IllegalArgumentException.class, array::load);
         checks.is("the kind was made", 6, () -> Checks.feed(array, "insert cat f=1;").load());
+    }
+
+    private static void behindWrongOnes(Checks checks) {
+        ArrayRecords array = Checks.done(DOG);
+        for (String text : new String[] {"if 1 { if 1 {", "print ((((1", "each dog by age { print (1 + 2 * (",
+            "delete dog where age + (1", "print not - count(dog where (", "set dog : age = not", "print 1 + 2 * - 3 3"}) {
+            checks.fails(text, IllegalArgumentException.class, () -> Checks.feed(array, text).load());
+            checks.fails("no each is open", IllegalArgumentException.class, () -> Checks.feed(array, "remove dog;").load());
+            checks.fails("no block is open", IllegalArgumentException.class, () -> Checks.feed(array, "}").load());
+            checks.fails("no bracket is open", IllegalArgumentException.class,
+                    () -> Checks.feed(array, "print 1);").load());
+            checks.is("ten brackets", 23, () -> Checks.feed(array, "print ((((((((((1))))))))));").load());
+            checks.is("ten blocks", 40,
+                    () -> Checks.feed(array, Checks.times(10, "if 1{") + Checks.times(10, "}")).load());
+            Checks.done(array, "print count(dog) + 7;");
+            checks.is("it runs", 7, () -> array.print(array.printed() - 1));
+        }
+        // What an earlier text left behind on the tape is no part of a shorter one.
+        for (String[] texts : new String[][] {{"print 1234;", "print 1"}, {"printer;", "print"}, {"print 1<=2;", "print 1<"}}) {
+            Checks.answer(() -> Checks.feed(array, texts[0]).load());
+            checks.fails(texts[1], IllegalArgumentException.class, () -> Checks.feed(array, texts[1]).load());
+            checks.is(texts[1], texts[1].length(), array::place);
+        }
+    }
+
+    private static void often(Checks checks) {
+        ArrayRecords array = Checks.done("kind k a:1,b:1,c:1,d:1,e:1,f:1;");
+        String puts = "k a=1,b=1,c=1,d=1,e=1,f=1;";
+        for (int k = 0; k < 60; k++) {
+            String right = "insert " + puts + "delete k;";
+            String wrong = "insert " + puts + "}";
+            checks.is("load " + k, 29, () -> Checks.feed(array, right).load());
+            checks.is("run " + k, 0, () -> array.run(9));
+            checks.fails("wrong " + k, IllegalArgumentException.class, () -> Checks.feed(array, wrong).load());
+        }
     }
 
     private static void limits(Checks checks) {

@@ -1,6 +1,7 @@
 /** Promise 4: place. In these texts the sign ^, which is not part of them, stands before what is wrong. */
 public final class PlaceTest {
     private static final String DOG = "kind dog age:5, size:8;";
+    private static final String SIX = "kind k a:1,b:1,c:1,d:1,e:1,f:1;";
     private static final String CAT = DOG + "kind cat dog:4, lives:4;";
 
     private static final String[] TOKENS = {
@@ -39,6 +40,8 @@ public final class PlaceTest {
         DOG + "insert dog age=1,^age=2;", DOG + "insert dog age=1,size=2,^age=2;", DOG + "insert dog age=1,size=2,^;",
         DOG + "insert dog age=1,size=2,^x=3;", DOG + "insert dog ^where 1;", DOG + "insert dog age=1 ^where 1;",
         DOG + "insert dog age=^dog.size;", DOG + "insert dog age^:5;", DOG + "insert dog age^.size=1;",
+        SIX + "insert k a=1,b=1,c=1,d=1,e=1,f=1,^a=1;", SIX + "insert k a=1,b=1,c=1,d=1,e=1,f=1,^g=1;",
+        SIX + "set k : a=1,b=1,c=1,d=1,e=1,f=1,^a=1;", SIX + "set k : f=1,e=1,d=1,c=1,b=1,a=1,^;",
         "delete ^;", "delete ^cat;", DOG + "delete dog ^age;", DOG + "delete dog where ^;", DOG + "delete dog ^: age=1;",
         DOG + "delete dog where age ^size;", DOG + "delete ^where 1;", DOG + "delete dog^.age;",
         "set ^cat : f=1;", DOG + "set dog ^;", DOG + "set dog ^age=1;", DOG + "set dog : ^;", DOG + "set dog : age=1, ^age=1;",

@@ -224,6 +224,10 @@ public final class RunTest {
                 "2 1 3 1 2 1 3 2 2 1 3 3");
         prints(checks, three + "each dog by size { each dog by age where size > dog.size { print dog.size; } }", "2 3 3");
         prints(checks, DOG + "each dog by age { print 1; } print 2;", "2");
+        prints(checks, DOG + "let v = 5; while v { insert dog age=v, size=v % 3; let v = v - 1; } "
+                + "each dog by age { print dog.age; } each dog by size { print dog.age; }", "1 2 3 4 5 3 4 1 5 2");
+        prints(checks, "kind k a:8, b:8; let v = 64; while v { insert k a=v; let v = v - 1; } each k by a { let n = n + 1; "
+                + "k.b = n; } print n; print count(k where a = b); print count(k);", "64 64 64");
     }
 
     private static void cursors(Checks checks) {

@@ -62,8 +62,12 @@ public final class WordTest {
             char c = (char) ('a' + 7 - k);
             Checks.done(array, "kind " + c + " f:4; insert " + c + " f=" + k + ";");
         }
+        Checks.done(array, "insert a f=8; insert a f=9;");
         for (int k = 1; k <= 7; k++) {
             row(checks, array, k - 1, k, k);
         }
+        row(checks, array, 7, 7, 8);
+        row(checks, array, 8, 7, 9);
+        checks.is("records", 9, array::records);
     }
 }
