@@ -15,41 +15,35 @@ public final class LoadTest {
         checks.end();
     }
 
-    private static void tokens(Checks checks, String text, int due) {
-        ArrayRecords array = new ArrayRecords();
-        checks.is(text, due, () -> Checks.feed(array, text).load());
-        checks.is("place of " + text, -1, array::place);
-    }
-
     private static void counts(Checks checks) {
-        tokens(checks, "", 0);
-        tokens(checks, " \n ", 0);
-        tokens(checks, "print 1;", 3);
-        tokens(checks, "print1;print(1);", 8);
-        tokens(checks, "\n print\n1 ; \n", 3);
-        tokens(checks, "print 1!=2;print 1<=2;print 1>=2;", 15);
-        tokens(checks, "print 1<-2;print--1;", 11);
-        tokens(checks, "print 2147483647; print 0000000000000000000007;", 6);
-        tokens(checks, "let abcdefgh=1;", 5);
-        tokens(checks, "let kinds=1; let in=2; let summ=3;", 15);
-        tokens(checks, "if 1{}else{}while 0{}", 11);
-        tokens(checks, DOG, 10);
-        tokens(checks, DOG + "insert dog age=1,size=2;delete dog;delete dog where 1;", 10 + 10 + 3 + 5);
-        tokens(checks, DOG + "set dog:age=1;set dog where age:age=1,size=2;", 10 + 7 + 13);
-        tokens(checks, DOG + "each dog by age{dog.age=1;remove dog;}", 10 + 5 + 6 + 3 + 1);
-        tokens(checks, DOG + "print count(dog)+sum(dog.age)+least(dog.age where 1);", 10 + 1 + 4 + 1 + 6 + 1 + 8 + 1);
-        tokens(checks, "if 1 { kind cat f:1; } insert cat f=1;", 16);
-        tokens(checks, "kind a a:32,b:32,c:20;kind b a:1,b:1,c:1,d:1,e:1,f:1;", 14 + 26);
-        tokens(checks, "print ((((((((((1))))))))));", 23);
-        tokens(checks, Checks.times(9, "if 1{") + "print (1);" + Checks.times(9, "}"), 41);
-        tokens(checks, Checks.times(10, "if 1{") + Checks.times(10, "}"), 40);
-        tokens(checks, "print not not not - - - 1;", 9);
-        tokens(checks, "print (1 = 2) = 3 and 4 < 5 or not 6 > 7;", 18);
+        checks.right("", 0);
+        checks.right(" \n ", 0);
+        checks.right("print 1;", 3);
+        checks.right("print1;print(1);", 8);
+        checks.right("\n print\n1 ; \n", 3);
+        checks.right("print 1!=2;print 1<=2;print 1>=2;", 15);
+        checks.right("print 1<-2;print--1;", 11);
+        checks.right("print 2147483647; print 0000000000000000000007;", 6);
+        checks.right("let abcdefgh=1;", 5);
+        checks.right("let kinds=1; let in=2; let summ=3;", 15);
+        checks.right("if 1{}else{}while 0{}", 11);
+        checks.right(DOG, 10);
+        checks.right(DOG + "insert dog age=1,size=2;delete dog;delete dog where 1;", 10 + 10 + 3 + 5);
+        checks.right(DOG + "set dog:age=1;set dog where age:age=1,size=2;", 10 + 7 + 13);
+        checks.right(DOG + "each dog by age{dog.age=1;remove dog;}", 10 + 5 + 6 + 3 + 1);
+        checks.right(DOG + "print count(dog)+sum(dog.age)+least(dog.age where 1);", 10 + 1 + 4 + 1 + 6 + 1 + 8 + 1);
+        checks.right("if 1 { kind cat f:1; } insert cat f=1;", 16);
+        checks.right("kind a a:32,b:32,c:20;kind b a:1,b:1,c:1,d:1,e:1,f:1;", 14 + 26);
+        checks.right("print ((((((((((1))))))))));", 23);
+        checks.right(Checks.times(9, "if 1{") + "print (1);" + Checks.times(9, "}"), 41);
+        checks.right(Checks.times(10, "if 1{") + Checks.times(10, "}"), 40);
+        checks.right("print not not not - - - 1;", 9);
+        checks.right("print (1 = 2) = 3 and 4 < 5 or not 6 > 7;", 18);
     }
 
     private static void tooMany(Checks checks) {
-        tokens(checks, Checks.times(50, "print 1;"), 150);
-        tokens(checks, Checks.times(50, "print 1;") + "  \n ", 150);
+        checks.right(Checks.times(50, "print 1;"), 150);
+        checks.right(Checks.times(50, "print 1;") + "  \n ", 150);
         for (String more : new String[] {"print", "}", "!", "A", "ninelette", "9999999999", "\u0000", "1"}) {
             tooMany(checks, Checks.times(50, "print 1;"), more);
             tooMany(checks, "print " + Checks.times(148, "-") + "1", more);

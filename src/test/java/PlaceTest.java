@@ -119,7 +119,7 @@ public final class PlaceTest {
         Checks checks = new Checks("PlaceTest");
         for (String[] row : new String[][] {TOKENS, ENDS, STATEMENTS, EXPRESSIONS, DEPTHS}) {
             for (String text : row) {
-                wrong(checks, text);
+                checks.wrong(text);
             }
         }
         for (String text : RIGHT) {
@@ -129,14 +129,6 @@ public final class PlaceTest {
         }
         latest(checks);
         checks.end();
-    }
-
-    private static void wrong(Checks checks, String marked) {
-        int due = marked.indexOf('^');
-        ArrayRecords array = new ArrayRecords();
-        Checks.feed(array, marked.substring(0, due) + marked.substring(due + 1));
-        checks.fails("load " + marked, IllegalArgumentException.class, array::load);
-        checks.is("place " + marked, due, array::place);
     }
 
     private static void latest(Checks checks) {
