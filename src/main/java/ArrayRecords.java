@@ -1247,7 +1247,7 @@ public final class ArrayRecords {
                 Part part = program.parts[p];
                 if (part.act >= COUNT && part.act <= GREATEST) {
                     part.number = aggregate(part);
-                    p = part.end - 1;
+                    p = Math.max(p, part.end - 1);
                 }
             }
             return within(start, NONE);
@@ -1299,7 +1299,7 @@ public final class ArrayRecords {
                     case LEAST:
                     case GREATEST:
                         stack[++top] = part.number;
-                        p = part.end - 1;
+                        p = Math.max(p, part.end - 1);
                         break;
                     case NOT:
                         stack[top] = stack[top] == 0 ? 1 : 0;

@@ -11,6 +11,7 @@ public final class LoadTest {
         stays(checks);
         limits(checks);
         behindWrongOnes(checks);
+        behindWrongExpressions(checks);
         often(checks);
         checks.end();
     }
@@ -138,6 +139,22 @@ public final class LoadTest {
             Checks.answer(() -> Checks.feed(array, texts[0]).load());
             checks.fails(texts[1], IllegalArgumentException.class, () -> Checks.feed(array, texts[1]).load());
             checks.is(texts[1], texts[1].length(), array::place);
+        }
+    }
+
+    /** What waited for its right side in a wrong program is no part of the next one. */
+    private static void behindWrongExpressions(Checks checks) {
+        for (String text : new String[] {"print not", "print -", "print 1 +", "print 2 *", "print 1 =", "print 1 or", "print 1 and",
+            "print (", "print 1 + (2 *", "print count(dog where not", "delete dog where -", "let v = 3 -;", "if not {"}) {
+            for (String[] next : new String[][] {{"print 5;", "5"}, {"print not 5;", "0"}, {"print 3 = 3;", "1"},
+                {"print (1 + 2) * 3;", "9"}, {"print count(dog where not age) + 4;", "4"}}) {
+                ArrayRecords array = Checks.done(DOG);
+                checks.fails(text, IllegalArgumentException.class, () -> Checks.feed(array, text).load());
+                checks.compare(text + " and then " + next[0], next[1], Checks.answer(() -> {
+                    Checks.done(array, next[0]);
+                    return array.print(0);
+                }));
+            }
         }
     }
 
